@@ -4,18 +4,49 @@ import java.util.NoSuchElementException;
 final class Check {
     static final int NO_ELEMENT = Integer.MIN_VALUE;
     static final int BAD_ARGUMENT = Integer.MIN_VALUE + 1;
+    static final int[] NO_THINGS = {-1, 6, 7, -6, Integer.MIN_VALUE, Integer.MAX_VALUE};
+
+    /** The test of one sentence. */
+    interface Test {
+        void run(Check check);
+    }
 
     private int wrong = 0;
+    private String words = "";
+
+    /** Runs the test of a sentence of the document, whose words stand before each wrong answer. */
+    void sentence(String itsWords, Test test) {
+        words = "[" + itsWords + "] ";
+        test.run(this);
+        words = "";
+    }
 
     void due(String call, long got, long want) {
         if (got != want) {
-            wrong++;
-            System.out.println(call + " answered " + got + ", due is " + want);
+            tell(call, named(got), named(want));
         }
     }
 
     void due(String call, boolean got, boolean want) {
-        due(call, got ? 1L : 0L, want ? 1L : 0L);
+        if (got != want) {
+            tell(call, Boolean.toString(got), Boolean.toString(want));
+        }
+    }
+
+    void due(String call, String got, String want) {
+        if (!got.equals(want)) {
+            tell(call, got, want);
+        }
+    }
+
+    private void tell(String call, String got, String want) {
+        wrong++;
+        System.out.println(words + call + " answered " + got + ", due is " + want);
+    }
+
+    private static String named(long answer) {
+        return answer == NO_ELEMENT ? "NoSuchElementException"
+            : answer == BAD_ARGUMENT ? "IllegalArgumentException" : Long.toString(answer);
     }
 
     void end() {
@@ -23,6 +54,12 @@ final class Check {
         if (wrong != 0) {
             System.exit(1);
         }
+    }
+
+    static PieceShelf shelf(int length) {
+        PieceShelf x = new PieceShelf();
+        x.thing(0, length, 0);
+        return x;
     }
 
     static long word(String text) {
@@ -90,5 +127,25 @@ final class Check {
         }
         due(name + ": no more fetches", fetch(x, want.length / 2, false), NO_ELEMENT);
         due(name + ": no more fetches", fetch(x, want.length / 2, true), NO_ELEMENT);
+    }
+
+    /** How many bytes of the things 0, 1, .. must be held. */
+    void counts(String name, PieceShelf x, int... want) {
+        for (int t = 0; t < want.length; t++) {
+            due(name + ": held of " + t, x.about(t, 1), want[t]);
+        }
+    }
+
+    /** Just these spans must be held of a thing. */
+    void spans(String name, PieceShelf x, int t, int... want) {
+        due(name + ": spans", x.about(t, 2), want.length / 2);
+        int sum = 0;
+        for (int k = 0; k + 1 < want.length; k += 2) {
+            sum += want[k + 1] - want[k] + 1;
+            for (int p = want[k]; p <= want[k + 1]; p++) {
+                due(name + ": held(" + t + ", " + p + ")", x.held(t, p), true);
+            }
+        }
+        due(name + ": held bytes", x.about(t, 1), sum);
     }
 }

@@ -1,11 +1,16 @@
-import java.util.ArrayList;
-import java.util.List;
-import java.util.regex.Pattern;
-
 /** Long runs of calls, the answers held against a second, slow reading of the document. */
 public final class ModelTest {
-    private static final int RUNS = 1500;
+    private static final int RUNS = 1200;
     private static final int CALLS = 300;
+    private static final int WILD_RUNS = 1500;
+    private static final int WILD_CALLS = 512;
+
+    /** Numbers around every bound that the document tells, and the ends of int. */
+    private static final int[] WILD = {
+        Integer.MIN_VALUE, Integer.MIN_VALUE + 1, -4096, -65, -64, -8, -6, -2, -1, 0, 1, 2, 3, 4, 5, 6, 7, 8, 9, 59, 60, 61,
+        63, 64, 65, 99, 100, 101, 999, 1000, 1001, 4093, 4094, 4095, 4096, 4097, 8000, 19999, 20000, 20001, 65536,
+        Integer.MAX_VALUE - 1, Integer.MAX_VALUE,
+    };
 
     /** A fixed row of numbers, so that each run of the test is the same. */
     private long seed = 20261115L;
@@ -20,6 +25,9 @@ public final class ModelTest {
         ModelTest test = new ModelTest();
         for (int run = 0; run < RUNS; run++) {
             test.run(check, run);
+        }
+        for (int run = 0; run < WILD_RUNS; run++) {
+            test.runWild(check, run);
         }
         check.end();
     }
@@ -65,9 +73,19 @@ public final class ModelTest {
                 break;
             default:
                 String text = text(greatest);
-                check.due(name + " type " + text, Check.type(x, text), true);
-                check.due(name + " answer " + text, Check.answer(x, t), m.answer(t, text));
+                type(check, name, x, m, text);
+                check.due(name + " answer " + text, Check.answer(x, t), m.answer(t));
                 compareAnswer(check, name + " " + text, x, m);
+        }
+    }
+
+    private void type(Check check, String name, PieceShelf x, Model m, String text) {
+        int at = 0;
+        while (at < text.length()) {
+            int n = Math.min(1 + below(8), text.length() - at);
+            long word = Check.word(text.substring(at, at + n));
+            check.due(name + " type " + text, x.type(word, n), m.type(word, n));
+            at += n;
         }
     }
 
@@ -95,19 +113,81 @@ public final class ModelTest {
         return b.length() > 60 ? b.substring(0, 60) : b.toString();
     }
 
+    private void runWild(Check check, int run) {
+        PieceShelf x = new PieceShelf();
+        Model m = new Model();
+        for (int k = 0; k < WILD_CALLS; k++) {
+            wildCall(check, "wild run " + run + ", call " + k, x, m);
+        }
+        compareAnswer(check, "wild run " + run, x, m);
+    }
+
+    private int wild() {
+        return WILD[below(WILD.length)];
+    }
+
+    private int wildThing() {
+        return below(4) == 0 ? wild() : below(3);
+    }
+
+    private void wildCall(Check check, String name, PieceShelf x, Model m) {
+        int t = wildThing();
+        int a = wild();
+        int b = wild();
+        int tag = below(5) == 0 ? wild() : 0;
+        switch (below(12)) {
+            case 0:
+                String text = text(4095);
+                type(check, name, x, m, text);
+                break;
+            case 1:
+                long word = (long) a << 32 | Check.word("=1-,") ^ (below(3) == 0 ? b : 0);
+                int n = below(2) == 0 ? wild() : 1 + below(8);
+                check.due(name + " type(" + word + ", " + n + ")", x.type(word, n), m.type(word, n));
+                break;
+            case 2:
+                check.due(name + " thing(" + t + ", " + a + ", " + tag + ")", x.thing(t, a, tag), m.thing(t, a, tag));
+                break;
+            case 3:
+                int seldom = below(4) == 0 ? t : a;
+                check.due(name + " forget(" + seldom + ")", x.forget(seldom), m.forget(seldom));
+                break;
+            case 4:
+            case 5:
+                check.due(name + " got(" + t + ", " + a + ", " + b + ", " + tag + ")", x.got(t, a, b, tag), m.got(t, a, b, tag));
+                break;
+            case 6:
+                check.due(name + " answer(" + t + ")", Check.answer(x, t), m.answer(t));
+                break;
+            case 7:
+                int what = below(2) == 0 ? below(2) : a;
+                check.due(name + " set(" + what + ", " + b + ")", x.set(what, b), m.set(what, b));
+                break;
+            default:
+                look(check, name, x, m, t, a, b);
+        }
+    }
+
+    private void look(Check check, String name, PieceShelf x, Model m, int t, int a, int b) {
+        boolean end = below(2) == 0;
+        check.due(name + " told(" + a + ")", x.told(a), m.told(a));
+        check.due(name + " row(" + a + ", " + end + ")", Check.row(x, a, end), m.row(a, end));
+        check.due(name + " fetch(" + b + ", " + end + ")", Check.fetch(x, b, end), m.fetch(b, end));
+        check.due(name + " about(" + t + ", " + a + ")", x.about(t, a), m.about(t, a));
+        check.due(name + " held(" + t + ", " + b + ")", x.held(t, b), m.held(t, b));
+    }
+
     private void compareAnswer(Check check, String name, PieceShelf x, Model m) {
         for (int what = -1; what <= 6; what++) {
             check.due(name + " told(" + what + ")", x.told(what), m.told(what));
         }
-        for (int i = 0; i <= m.rows.size(); i++) {
-            boolean is = i < m.rows.size();
-            check.due(name + " row " + i, Check.row(x, i, false), is ? m.rows.get(i)[0] : Check.NO_ELEMENT);
-            check.due(name + " row end " + i, Check.row(x, i, true), is ? m.rows.get(i)[1] : Check.NO_ELEMENT);
+        for (int i = -1; i <= m.rows.size(); i++) {
+            check.due(name + " row " + i, Check.row(x, i, false), m.row(i, false));
+            check.due(name + " row end " + i, Check.row(x, i, true), m.row(i, true));
         }
-        for (int i = 0; i <= m.plan.size(); i++) {
-            boolean is = i < m.plan.size();
-            check.due(name + " fetch " + i, Check.fetch(x, i, false), is ? m.plan.get(i)[0] : Check.NO_ELEMENT);
-            check.due(name + " fetch end " + i, Check.fetch(x, i, true), is ? m.plan.get(i)[1] : Check.NO_ELEMENT);
+        for (int i = -1; i <= m.plan.size(); i++) {
+            check.due(name + " fetch " + i, Check.fetch(x, i, false), m.fetch(i, false));
+            check.due(name + " fetch end " + i, Check.fetch(x, i, true), m.fetch(i, true));
         }
     }
 
@@ -117,214 +197,8 @@ public final class ModelTest {
                 check.due(name + " about(" + t + ", " + what + ")", x.about(t, what), m.about(t, what));
             }
             for (int place = -1; place <= 4096; place++) {
-                boolean want = t >= 0 && t < 6 && place >= 0 && place < 4096 && m.held[t][place];
-                check.due(name + " held(" + t + ", " + place + ")", x.held(t, place), want);
+                check.due(name + " held(" + t + ", " + place + ")", x.held(t, place), m.held(t, place));
             }
-        }
-    }
-
-    /** The document word by word: sets are rows of booleans, places go one by one, plans are searched for. */
-    private static final class Model {
-        private static final String PART = "(\\d{1,5}-\\d{0,5}|-\\d{1,5})";
-        private static final Pattern TEXT = Pattern.compile("bytes=" + PART + "(," + PART + "){0,5}");
-
-        final boolean[][] held = new boolean[6][4096];
-        final int[] length = {-1, -1, -1, -1, -1, -1};
-        final int[] tag = new int[6];
-        final List<Integer> used = new ArrayList<>();
-        int room = 8000;
-        int cost = 100;
-        List<int[]> rows = new ArrayList<>();
-        List<int[]> plan = new ArrayList<>();
-        int places;
-        int heldThen;
-        int price;
-        int of = -1;
-
-        boolean is(int t) {
-            return t >= 0 && t < 6;
-        }
-
-        boolean thing(int t, int l, int g) {
-            if (!is(t) || l < 0 || l > 4095) {
-                return false;
-            }
-            if (length[t] != l || tag[t] != g) {
-                held[t] = new boolean[4096];
-            }
-            length[t] = l;
-            tag[t] = g;
-            return true;
-        }
-
-        boolean forget(int t) {
-            if (!is(t)) {
-                return false;
-            }
-            length[t] = -1;
-            held[t] = new boolean[4096];
-            return true;
-        }
-
-        boolean set(int what, int v) {
-            if (what == 0 && v >= 0 && v <= 20000) {
-                room = v;
-                makeRoom();
-                return true;
-            }
-            if (what == 1 && v >= 0 && v <= 1000) {
-                cost = v;
-                return true;
-            }
-            return false;
-        }
-
-        int got(int t, int a, int b, int g) {
-            if (!is(t) || length[t] == -1 || tag[t] != g || a < 0 || a > b || b >= length[t]) {
-                return -1;
-            }
-            int fresh = 0;
-            for (int p = a; p <= b; p++) {
-                fresh += held[t][p] ? 0 : 1;
-                held[t][p] = true;
-            }
-            use(t);
-            makeRoom();
-            return fresh;
-        }
-
-        void use(int t) {
-            used.remove(Integer.valueOf(t));
-            used.add(t);
-        }
-
-        int count(boolean[] set) {
-            int n = 0;
-            for (boolean b : set) {
-                n += b ? 1 : 0;
-            }
-            return n;
-        }
-
-        void makeRoom() {
-            int all = 0;
-            for (boolean[] set : held) {
-                all += count(set);
-            }
-            for (int t : used) {
-                for (int p = 4095; p >= 0 && all > room; p--) {
-                    all -= held[t][p] ? 1 : 0;
-                    held[t][p] = false;
-                }
-            }
-        }
-
-        /** The parts of a text as {first, last}, or null if it is none. */
-        List<int[]> parts(String text, int n) {
-            if (!TEXT.matcher(text).matches()) {
-                return null;
-            }
-            List<int[]> parts = new ArrayList<>();
-            for (String part : text.substring(6).split(",")) {
-                String[] ends = part.split("-", 2);
-                if (ends[0].isEmpty()) {
-                    parts.add(new int[] {Math.max(0, n - Integer.parseInt(ends[1])), n - 1});
-                    continue;
-                }
-                int a = Integer.parseInt(ends[0]);
-                int b = ends[1].isEmpty() ? Integer.MAX_VALUE : Integer.parseInt(ends[1]);
-                if (a > b) {
-                    return null;
-                }
-                parts.add(new int[] {a, Math.min(b, n - 1)});
-            }
-            return parts;
-        }
-
-        List<int[]> spans(boolean[] set) {
-            List<int[]> spans = new ArrayList<>();
-            for (int p = 0; p < set.length; p++) {
-                if (set[p] && (p == 0 || !set[p - 1])) {
-                    spans.add(new int[] {p, p});
-                } else if (set[p]) {
-                    spans.get(spans.size() - 1)[1] = p;
-                }
-            }
-            return spans;
-        }
-
-        int answer(int t, String text) {
-            if (!is(t) || length[t] == -1) {
-                return Check.BAD_ARGUMENT;
-            }
-            List<int[]> parts = parts(text, length[t]);
-            boolean whole = parts == null;
-            if (whole) {
-                parts = new ArrayList<>();
-                parts.add(new int[] {0, length[t] - 1});
-            }
-            parts.removeIf(p -> p[0] > p[1]);
-            int[] times = new int[4096];
-            boolean[] wanted = new boolean[4096];
-            boolean common = false;
-            for (int[] part : parts) {
-                for (int p = part[0]; p <= part[1]; p++) {
-                    times[p]++;
-                    wanted[p] = true;
-                    common |= times[p] > 1;
-                }
-            }
-            rows = common || parts.size() > 3 ? spans(wanted) : parts;
-            places = count(wanted);
-            for (int p = 0; p < 4096; p++) {
-                wanted[p] &= !held[t][p];
-            }
-            heldThen = places - count(wanted);
-            search(spans(wanted));
-            of = t;
-            if (whole || !rows.isEmpty()) {
-                use(t);
-            }
-            return whole ? 0 : rows.isEmpty() ? 2 : 1;
-        }
-
-        /** Tries for each span where the last fetch may begin: the cheapest, then the fewest. */
-        void search(List<int[]> spans) {
-            int n = spans.size();
-            long[] best = new long[n + 1];
-            int[] from = new int[n + 1];
-            for (int k = 1; k <= n; k++) {
-                best[k] = Long.MAX_VALUE;
-                for (int j = 0; j < k; j++) {
-                    long price = cost + spans.get(k - 1)[1] - spans.get(j)[0] + 1;
-                    long all = best[j] + price * 100000L + 1;
-                    if (all < best[k]) {
-                        best[k] = all;
-                        from[k] = j;
-                    }
-                }
-            }
-            price = (int) (best[n] / 100000L);
-            plan = new ArrayList<>();
-            for (int k = n; k > 0; k = from[k]) {
-                plan.add(0, new int[] {spans.get(from[k])[0], spans.get(k - 1)[1]});
-            }
-        }
-
-        int told(int what) {
-            int[] all = {rows.size(), places, heldThen, plan.size(), price, of};
-            return of == -1 || what < 0 || what > 5 ? -1 : all[what];
-        }
-
-        int about(int t, int what) {
-            if (!is(t) || what < 0 || what > 3) {
-                return -1;
-            }
-            int missing = -1;
-            for (int p = length[t] - 1; p >= 0; p--) {
-                missing = held[t][p] ? missing : p;
-            }
-            return new int[] {length[t], count(held[t]), spans(held[t]).size(), missing}[what];
         }
     }
 }
